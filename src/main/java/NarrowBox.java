@@ -340,15 +340,8 @@ public final class NarrowBox {
         if (fault < 1 || fault > MOST_TOLD_FAULT || from >= n) {
             return BAD;
         }
-        Flight f = flights[flight];
-        fly(plain, f, n, 0);
-        tried.begin();
-        for (int t = 0; t < n; t++) {
-            ticker.tick(boxes, boxCount, tried, f, t, t < from ? -1 : box);
-            if (t >= from) {
-                tried.kill(box, fault);
-            }
-        }
+        fly(plain, flights[flight], n, 0);
+        flyWithout(box, from, flights[flight], n, fault);
         return unlikeBoxes();
     }
 
@@ -387,7 +380,7 @@ public final class NarrowBox {
         }
         fly(plain, flights[flight], n, 0);
         for (int from = n - 1; from >= 0; from--) {
-            flyStopped(box, from, flights[flight], n);
+            flyWithout(box, from, flights[flight], n, 0);
             if ((unlikeBoxes() & ~(1 << box)) != 0) {
                 return from;
             }
@@ -679,10 +672,14 @@ public final class NarrowBox {
         }
     }
 
-    private void flyStopped(int box, int from, Flight f, int n) {
+    /** Flies n TICKS with a BOX that from a TICK on does nothing, and sends a fault if it is told one. */
+    private void flyWithout(int box, int from, Flight f, int n, int fault) {
         tried.begin();
         for (int t = 0; t < n; t++) {
             ticker.tick(boxes, boxCount, tried, f, t, t < from ? -1 : box);
+            if (t >= from && fault != 0) {
+                tried.kill(box, fault);
+            }
         }
     }
 
