@@ -538,7 +538,7 @@ public final class NarrowBox {
         if (from.isEmpty() || to.isEmpty()) {
             return NOTHING_THERE;
         }
-        if (!from.holdsRow() || !to.holdsRow() || from.sort != to.sort) {
+        if (!from.holdsRow() || from.sort != to.sort) {
             return OTHER_KIND;
         }
         if (!from.hasPlaces(i, n) || !to.hasPlaces(j, n)) {

@@ -127,6 +127,8 @@ public final class FaultsTest {
         DUE.is("nothing new behind tick 4", x.needed(0, 0, 20), 4);
         Due.program(x, 1, "?t<3:r0=i0");
         DUE.is("read till tick 2", x.needed(0, 0, 20), 1);
+        Due.program(x, 0, "s0=7");
+        DUE.is("at once, or never", x.needed(0, 0, 20), 0);
         Due.program(x, 0, "s0=1/(6-t)");
         Due.program(x, 1, "r0=i0;kr1=e");
         DUE.is("stopped it does not die", x.needed(0, 0, 8), 6);

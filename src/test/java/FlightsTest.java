@@ -91,7 +91,21 @@ public final class FlightsTest {
         x.feltRow(0, -1, 0);
         DUE.is("what felt() told", x.feels(0, 0), 3);
         x.row(2, 4, 60);
+        for (int i = 0; i < 60; i++) x.put(2, i, 4 * i);
         DUE.is("all sixty", x.feltRow(2, 2, 0), 60);
+        DUE.is("the last of sixty", x.feels(2, 60), 59);
+        x.row(2, 4, 3);
+        x.put(2, 2, 20);
+        DUE.is("three", x.feltRow(2, 2, 0), 3);
+        DUE.is("the last of three", x.feels(2, 3), 5);
+        x.flight();
+        x.flight();
+        DUE.is("of another flight and felt", x.feltRow(22, 2, 2), 1);
+        DUE.is("it is felt there", x.feels(22, 9), 5);
+        DUE.is("not elsewhere", x.feels(21, 9) + x.feels(12, 9), 0);
+        x.feltRow(22, -1, 0);
+        DUE.is("no more there", x.feels(22, 9), 0);
+        DUE.is("but here", x.feels(2, 9), 5);
     }
 
     private static void feltRowRefusals() {
@@ -300,6 +314,10 @@ public final class FlightsTest {
         boundsAre("9/f1", 1, 4);
         boundsAre("9/f2", -4, -1);
         boundsAre("(f0*10)/f1", -15, 20);
+        boundsAre("(f0*10)/f2", -20, 15);
+        boundsAre("(f0*10-50)/f1", -40, -2);
+        boundsAre("(f0*10-50)/f2", 1, 40);
+        boundsAre("f1*f2", -30, -4);
         boundsAre("9/f0", VOID, VOID);
         boundsAre("9/t", VOID, VOID);
         boundsAre("9/(t+1)", 0, 9);

@@ -99,6 +99,13 @@ public final class PapersTest {
         x.run(0, 1);
         Due.program(x, 0, "r0=5");
         DUE.is("tried now", x.holds(0, 0), 1);
+        Due.program(x, 1, "r0=1/(5-f1)");
+        for (int f = 2; f < 8; f++) x.flight();
+        x.felt(71, 5, 0, 9);
+        DUE.is("in the last flight", x.paper(1, 11, 701, 9999), 3);
+        DUE.is("it is dead there", x.holds(0, 3), 0);
+        x.felt(71, 4, 1, 9);
+        DUE.is("not in one tick now", x.holds(0, 3), 1);
         DUE.is("the latest run stays", x.ofRun(0, 30), 1);
     }
 
