@@ -200,9 +200,6 @@ public final class NarrowBox {
             f.leaveRow(fk % 10);
             return 0;
         }
-        if (i < 0) {
-            return BAD;
-        }
         Shelf s = shelves[shelf];
         if (!s.isEmpty() && !s.holdsReals()) {
             return OTHER_KIND;
@@ -337,7 +334,7 @@ public final class NarrowBox {
         }
         int fault = ft / 1000;
         int from = ft % 1000;
-        if (fault < 1 || fault > MOST_TOLD_FAULT || from >= n) {
+        if (fault < 1 || fault > MOST_TOLD_FAULT) {
             return BAD;
         }
         fly(plain, flights[flight], n, 0);
@@ -1055,8 +1052,9 @@ public final class NarrowBox {
             rowLength[k] = NO_ROW;
         }
 
+        /** A place that is not there, below 0 too, is where the row is missing: nothing is taken from there on. */
         int takeRow(int k, Shelf s, int from) {
-            int n = s.holdsRow() && s.length > from ? s.length - from : 0;
+            int n = s.holdsRow() && from >= 0 && from < s.length ? s.length - from : 0;
             for (int i = 0; i < n; i++) {
                 rows[k][i] = s.feltFrom(from + i);
             }

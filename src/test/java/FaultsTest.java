@@ -71,11 +71,13 @@ public final class FaultsTest {
     private static void farBad() {
         NarrowBox x = chain(1);
         int[][] bad = {{1, 0, 5, 1000}, {-1, 0, 5, 1000}, {0, 1, 5, 1000}, {0, -1, 5, 1000}, {0, 0, 0, 1000},
-            {0, 0, 201, 1000}, {0, 0, 5, 999}, {0, 0, 5, 0}, {0, 0, 5, -1000}, {0, 0, 5, 10000}, {0, 0, 5, 1005},
-            {0, 0, 200, 1200}};
+            {0, 0, 201, 1000}, {0, 0, 5, 999}, {0, 0, 5, 0}, {0, 0, 5, -1000}, {0, 0, 5, 10000},
+            {0, 0, 5, 10007}, {1, 0, 5, 1007}};
         for (int[] b : bad) DUE.is("far bad " + b[3], x.far(b[0], b[1], b[2], b[3]), BAD);
         DUE.is("the last tick", x.far(0, 0, 200, 1199), 1);
         DUE.is("fault 9", x.far(0, 0, 5, 9004), 1);
+        int[][] unreached = {{1, 1001}, {1, 1023}, {5, 1005}, {5, 9999}, {200, 1200}, {199, 1199}};
+        for (int[] u : unreached) DUE.is("a tick that is not reached " + u[1], x.far(0, 0, u[0], u[1]), 0);
     }
 
     private static void twin() {

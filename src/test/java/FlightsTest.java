@@ -76,6 +76,12 @@ public final class FlightsTest {
         DUE.is("at its end", x.feltRow(0, 0, 6), 0);
         DUE.is("0 without", x.feels(0, 0), 0);
         DUE.is("far behind its end", x.feltRow(0, 0, Integer.MAX_VALUE), 0);
+        for (int i : new int[] {-1, -6, Integer.MIN_VALUE}) {
+            x.feltRow(0, 0, 3);
+            DUE.is("a place below 0 is not there", x.feltRow(0, 0, i), 0);
+            DUE.is("0 without, ahead of the row", x.feels(0, 0), 0);
+            DUE.is("and it does not come later", x.feels(0, 199), 0);
+        }
         x.row(1, 3, 2);
         x.put(1, 0, Long.MAX_VALUE);
         x.put(1, 1, Long.MIN_VALUE);
@@ -86,6 +92,12 @@ public final class FlightsTest {
         DUE.is("start again", x.feels(0, 0), 5);
         DUE.is("nothing there is missing", x.feltRow(0, 5, 0), 0);
         DUE.is("missing gives 0", x.feels(0, 0), 0);
+        x.feltRow(0, 0, 3);
+        DUE.is("nothing there, from below 0 on", x.feltRow(0, 5, -1), 0);
+        DUE.is("missing gives 0 again", x.feels(0, 0), 0);
+        DUE.is("no more, whatever the place is", x.feltRow(0, -1, -1), 0);
+        DUE.is("start once more", x.feels(0, 0), 5);
+        x.feltRow(0, 5, 0);
         DUE.is("felt() does not end a row", x.felt(0, 3, 0, 9), 1);
         DUE.is("still the row", x.feels(0, 0), 0);
         x.feltRow(0, -1, 0);
@@ -119,7 +131,9 @@ public final class FlightsTest {
             x.row(1, sort, 3);
             DUE.is("a row of sort " + sort, x.feltRow(0, 1, 0), -12);
         }
-        int[][] bad = {{3, 1, 0}, {10, 1, 0}, {-1, 1, 0}, {0, 6, 0}, {0, -2, 0}, {0, 4, -1}, {0, 1, -1}, {0, 5, -1}};
+        DUE.is("another kind, whatever the place is", x.feltRow(0, 1, -1), -12);
+        DUE.is("a box, whatever the place is", x.feltRow(0, 0, -1), -12);
+        int[][] bad = {{3, 1, 0}, {10, 1, 0}, {-1, 1, 0}, {0, 6, 0}, {0, -2, 0}, {3, 5, -1}, {0, 6, -1}};
         for (int[] b : bad) DUE.is("feltRow bad", x.feltRow(b[0], b[1], b[2]), BAD);
     }
 

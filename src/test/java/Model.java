@@ -182,12 +182,11 @@ final class Model {
             f.row[fk % 10] = null;
             return 0;
         }
-        if (i < 0) return BAD;
         Object held = shelves[shelf];
         if (held != null && !(held instanceof double[]) && !(held instanceof float[])) return -12;
         List<Integer> taken = new ArrayList<>();
         int length = held instanceof double[] d ? d.length : held instanceof float[] fl ? fl.length : 0;
-        for (int at = i; at < length; at++) {
+        for (int at = i; at >= 0 && at < length; at++) {
             double v = held instanceof double[] d ? d[at] : ((float[]) held)[at];
             v = Double.isNaN(v) ? 0 : Math.floor(v);
             taken.add((int) Math.max(-99999, Math.min(99999, v)));
@@ -488,7 +487,6 @@ final class Model {
 
     int far(int box, int flight, int n, int ft) {
         if (!isBox(box) || !isFlight(flight) || n < 1 || n > 200 || ft < 1000 || ft >= 10000) return BAD;
-        if (ft % 1000 >= n) return BAD;
         List<One> plain = fly(flights.get(flight), n, -1, n, 0);
         List<One> with = fly(flights.get(flight), n, box, ft % 1000, ft / 1000);
         return unlike(plain, with);

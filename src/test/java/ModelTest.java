@@ -209,7 +209,7 @@ public final class ModelTest {
         switch (below(13)) {
             case 0: if (seldom()) call("flight"); break;
             case 1: call("felt", aFelt(), around(below(2) == 0 ? 50 : 99999), around(20), some(100000)); break;
-            case 2: call("feltRow", aFelt(), some(7) - 1, below(4)); break;
+            case 2: call("feltRow", aFelt(), some(7) - 1, some(6) - 1); break;
             case 3: call("feels", aFelt(), some(200)); break;
             case 4: case 5: tryRun(); break;
             case 6: case 7: {
@@ -240,7 +240,7 @@ public final class ModelTest {
     private void ofFaults() throws Exception {
         int n = ticks();
         switch (below(9)) {
-            case 0: case 1: call("far", aBox(), aFlight(), n, 1000 * some(10) + below(14)); break;
+            case 0: case 1: call("far", aBox(), aFlight(), n, 1000 * some(10) + some(14)); break;
             case 2: call("twin", aBox(), aBox()); break;
             case 3: call("worth", aBox(), someFlights(), n); break;
             case 4: call("needed", aBox(), aFlight(), n); break;
