@@ -208,7 +208,7 @@ public final class NarrowBox {
     }
 
     public int feels(int fk, int t) {
-        return isFelt(fk) && t >= 0 && t < TICKS ? flights[fk / 10].feltAt(fk % 10, t) : VOID;
+        return isFelt(fk) && isTick(t) ? flights[fk / 10].feltAt(fk % 10, t) : VOID;
     }
 
     public int run(int flight, int n) {
@@ -334,7 +334,7 @@ public final class NarrowBox {
         }
         int fault = ft / 1000;
         int from = ft % 1000;
-        if (fault < 1 || fault > MOST_TOLD_FAULT) {
+        if (fault < 1 || fault > MOST_TOLD_FAULT || !isTick(from)) {
             return BAD;
         }
         fly(plain, flights[flight], n, 0);
@@ -622,6 +622,11 @@ public final class NarrowBox {
 
     private static boolean isMachine(int machine) {
         return machine >= 0 && machine < MACHINES;
+    }
+
+    /** Whether a number is one of a TICK, reached by a flight or not. */
+    private static boolean isTick(int t) {
+        return t >= 0 && t < TICKS;
     }
 
     private static boolean isTicks(int n) {

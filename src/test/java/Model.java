@@ -487,6 +487,7 @@ final class Model {
 
     int far(int box, int flight, int n, int ft) {
         if (!isBox(box) || !isFlight(flight) || n < 1 || n > 200 || ft < 1000 || ft >= 10000) return BAD;
+        if (ft % 1000 > 199) return BAD;
         List<One> plain = fly(flights.get(flight), n, -1, n, 0);
         List<One> with = fly(flights.get(flight), n, box, ft % 1000, ft / 1000);
         return unlike(plain, with);

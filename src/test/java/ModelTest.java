@@ -76,6 +76,11 @@ public final class ModelTest {
         return seldom() ? WILD[below(WILD.length)] : 1 + below(below(4) == 0 ? 40 : 12);
     }
 
+    /** Mostly an early one, seldom one about the last that there is. */
+    private int aTick() {
+        return seldom() ? 195 + below(10) : some(14);
+    }
+
     private int aBox() {
         return some(model.count(0));
     }
@@ -240,7 +245,7 @@ public final class ModelTest {
     private void ofFaults() throws Exception {
         int n = ticks();
         switch (below(9)) {
-            case 0: case 1: call("far", aBox(), aFlight(), n, 1000 * some(10) + some(14)); break;
+            case 0: case 1: call("far", aBox(), aFlight(), n, 1000 * some(10) + aTick()); break;
             case 2: call("twin", aBox(), aBox()); break;
             case 3: call("worth", aBox(), someFlights(), n); break;
             case 4: call("needed", aBox(), aFlight(), n); break;
