@@ -34,6 +34,7 @@ public final class FaultSentencesTest {
         fewestOf();
         fewestFirst();
         fewestNone();
+        fewestOneAfterTheOther();
         fewestOfTold();
         DUE.end();
     }
@@ -537,6 +538,23 @@ public final class FaultSentencesTest {
         program(x, 0, "r0=1/(9-t)");
         DUE.is("not dead yet", x.fewest(1, 9, 1), 0);
         DUE.is("dead now", x.fewest(1, 10, 1), 1);
+    }
+
+    private static void fewestOneAfterTheOther() {
+        DUE.says("together make DEAD all BOXES that any of them does");
+        for (int first = 0; first < 6; first++) {
+            NarrowBox x = boxes(0, 0, 0, 0, 0, 0);
+            for (int f = 1; f < 8; f++) x.flight();
+            for (int f = 0; f < 8; f++) x.felt(10 * f, f, 0, 9);
+            for (int b = 0; b < 6; b++) {
+                int ahead = (b - first + 6) % 6;
+                program(x, b, "?(f0=" + ahead + ")|(f0=7):r0=1/(" + ahead + "-t)");
+            }
+            DUE.is("one kills all in six ticks", x.fewest(255, 6, 1), 128);
+            DUE.is("each flight kills one", x.fewest(127, 6, 1), 63);
+            DUE.is("five are dead in five", x.fewest(127, 5, 1), 31);
+            DUE.is("one is dead in one", x.fewest(255, 1, 1), 1);
+        }
     }
 
     private static void fewestOfTold() {

@@ -24,6 +24,7 @@ public final class FlightSentencesTest {
         allFlights();
         allOfTheNewer();
         allInOrder();
+        allOfEachFelt();
         allByStepAndCap();
         allBig();
         allNot();
@@ -34,6 +35,7 @@ public final class FlightSentencesTest {
         shownQuotients();
         shownRests();
         shownTruth();
+        shownOfTheLatestProgram();
         shownWithoutTests();
         over();
         gaps();
@@ -204,34 +206,30 @@ public final class FlightSentencesTest {
 
     private static void rowOfEachFelt() {
         DUE.says("FELT k of a FLIGHT comes FROM A ROW on a SHELF");
+        for (int fk = 0; fk < 73; fk += fk % 10 == 2 ? 8 : 1) {
+            NarrowBox x = eachFeltTold();
+            x.row(fk % 6, 3 + fk % 2, 1);
+            x.put(fk % 6, 0, 4 * fk);
+            DUE.is("one", x.feltRow(fk, fk % 6, 0), 1);
+            for (int other = 0; other < 73; other++) {
+                int due = other % 10 > 2 ? VOID : other == fk ? fk : 1000 + other;
+                DUE.is("of " + other, x.feels(other, 199), due);
+            }
+            DUE.is("no more", x.feltRow(fk, -1, 0), 0);
+            for (int other = 0; other < 73; other++) {
+                DUE.is("of " + other, x.feels(other, 199), other % 10 > 2 ? VOID : 1000 + other);
+            }
+        }
+    }
+
+    /** FLIGHTS 0 .. 7, of which FELT k of FLIGHT f is 1000 + 10 f + k. */
+    private static NarrowBox eachFeltTold() {
         NarrowBox x = new NarrowBox();
-        for (int f = 0; f < 8; f++) x.flight();
         for (int f = 0; f < 8; f++) {
+            x.flight();
             for (int k = 0; k < 3; k++) x.felt(10 * f + k, 1000 + 10 * f + k, 0, 99999);
         }
-        for (int f = 0; f < 8; f++) {
-            for (int k = 0; k < 3; k++) {
-                int fk = 10 * f + k;
-                int shelf = fk % 6;
-                x.row(shelf, 3 + fk % 2, 1);
-                x.put(shelf, 0, 4 * fk);
-                DUE.is("one", x.feltRow(fk, shelf, 0), 1);
-                for (int other = 0; other < 73; other++) {
-                    int due = other % 10 > 2 ? VOID : other <= fk ? other : 1000 + other;
-                    DUE.is("of " + other, x.feels(other, 199), due);
-                }
-            }
-        }
-        for (int f = 0; f < 8; f++) {
-            for (int k = 0; k < 3; k++) {
-                int fk = 10 * f + k;
-                DUE.is("no more", x.feltRow(fk, -1, 0), 0);
-                for (int other = 0; other < 73; other++) {
-                    int due = other % 10 > 2 ? VOID : other > fk ? other : 1000 + other;
-                    DUE.is("of " + other, x.feels(other, 199), due);
-                }
-            }
-        }
+        return x;
     }
 
     private static void asWhenTold() {
@@ -387,15 +385,21 @@ public final class FlightSentencesTest {
         for (int k = 0; k < 3; k++) DUE.is("began at its own", x.began(k), -7 - k);
     }
 
-    private static void allInOrder() {
-        DUE.says("in order (FELT 0 counts most): the first by which a FAULT is not caught: how many ahead of it; NOT: none.");
+    /** A FLIGHT and a BOX, and spans of the older machine with 3 by 4 by 5 rows of beginnings. */
+    private static NarrowBox spannedBox() {
         NarrowBox x = new NarrowBox();
         x.flight();
         x.box(0);
         x.span(0, 0, 2);
         x.span(1, 5, 8);
         x.span(2, -1, 3);
+        return x;
+    }
+
+    private static void allInOrder() {
+        DUE.says("in order (FELT 0 counts most): the first by which a FAULT is not caught: how many ahead of it; NOT: none.");
         for (int a = 0; a <= 2; a++) {
+            NarrowBox x = spannedBox();
             for (int b = 5; b <= 8; b++) {
                 for (int c = -1; c <= 3; c++) {
                     Due.program(x, 0, "r0=1/((f0<" + a + ")|(f0=" + a + ")&(f1<" + b + ")|(f0=" + a + ")&(f1=" + b + ")&(f2<" + c + "))");
@@ -404,11 +408,31 @@ public final class FlightSentencesTest {
                 }
             }
         }
+        NarrowBox x = spannedBox();
         Due.program(x, 0, "r0=1/(f0-1);kr0=1;r0=1/(f1-7)");
         DUE.is("a fault that is caught does not count", x.all(0, 0, 1), 10);
         x.box(0);
         Due.program(x, 1, "r0=1/(f2-2)");
         DUE.is("of any box", x.all(0, 0, 1), 3);
+    }
+
+    private static void allOfEachFelt() {
+        DUE.says("FELT k begins at each of least .. greatest");
+        for (int k = 0; k < 3; k++) {
+            NarrowBox x = new NarrowBox();
+            x.flight();
+            x.box(0);
+            for (int other = 0; other < 3; other++) x.span(other, 32760, 32771);
+            Due.program(x, 0, "r0=f" + k);
+            x.span((k + 1) % 3, 32760, 32760);
+            x.span((k + 2) % 3, 99999, 99999);
+            DUE.is("32768 does not fit", x.all(0, 0, 1), 8);
+            DUE.is("it began", x.began(k), 32768);
+            Due.program(x, 0, "?t=5:r0=f" + k + "+2");
+            DUE.is("32766 and 2 does not fit", x.all(0, 0, 6), 6);
+            Due.program(x, 0, "r7=0;kr1=f" + k);
+            DUE.is("passed over", x.all(0, 0, 6), NOT);
+        }
     }
 
     private static void allByStepAndCap() {
@@ -637,6 +661,23 @@ public final class FlightSentencesTest {
         for (String e : new String[] {"1<2", "2<1", "1=1", "1=2", "2>1", "1>2", "0|0", "1|1", "0&0", "1&1", "f0<f1", "i0&i1"}) bounds(e, 0, 1);
         bounds("(1<2)+(1=1)+(2>1)+(0|0)+(0&0)", 0, 5);
         bounds("-(1<2)", -1, 0);
+    }
+
+    private static void shownOfTheLatestProgram() {
+        DUE.says("THE TAPE becomes the PROGRAM of a BOX");
+        NarrowBox x = new NarrowBox();
+        x.box(0);
+        String[] longer = {"r0=1+1+1+1+1+1", "r0=1/0;r1=1/0;r2=1/0", "r0=1|1|1|1", "r0=-----1;r1=----(1/0)"};
+        String[] shorter = {"r0=7", "r0=-7", "r0=3+4", "r0=-3-4", "r0=t", "r0=-(t+1)"};
+        int[][] want = {{7, 7}, {-7, -7}, {7, 7}, {-7, -7}, {0, 199}, {-200, -1}};
+        for (String former : longer) {
+            for (int i = 0; i < shorter.length; i++) {
+                for (String text : new String[] {former, former, shorter[i]}) Due.program(x, 0, text);
+                for (int what = 0; what < 2; what++) DUE.is("bounds behind " + former, x.bounds(0, 0, 0, what), want[i][what]);
+                DUE.is("gaps behind " + former, x.gaps(0, 0), 0);
+                DUE.is("lines behind " + former, x.line(0, 1, 3), BAD);
+            }
+        }
     }
 
     private static void shownWithoutTests() {

@@ -9,6 +9,9 @@ public final class ModelTest {
     private static final int[] WILD = {Integer.MIN_VALUE, Integer.MAX_VALUE, -2, -1, 0, 1, 6, 7, 8, 12, 19, 20, 60, 61,
         99, 160, 199, 200, 201, 999, 1000, 9999, 10000, 99999, 100000, -99999, -100000, 1 << 20, 1 << 30};
 
+    /** What later calls of an object answer is free. */
+    private static final int MOST_CALLS = 512;
+
     private static final String[] LIVELY = {"r0=r0+f0", "r0=r0*2+f1", "s0=r0", "s1=r1*f2", "r1=i0+i1", "r1=r1+i2*3",
         "r2=1000/(t-5)", "r2=r0%(f1-t)", "?t>4:s0=i0", "?i1:r3=i1-1", "kr7=r7+e", "k?e=1:s1=e*100", "ks0=-e",
         "!r1=r1*3+7", "!s1=f0*f1", "r3=f0*f1*f2", "r4=t*t", "s0=t", "k!r5=r5*9+e", "r6=r5*r5*r5", "r2=i3", "s1=i0",
@@ -38,7 +41,8 @@ public final class ModelTest {
         due.end();
     }
 
-    private int call(String name, Object... args) throws Exception {
+    private void call(String name, Object... args) throws Exception {
+        if (calls == MOST_CALLS) return;
         Method ours = methods.get(name);
         Method theirs = methods.get("model " + name);
         if (ours == null) {
@@ -52,7 +56,6 @@ public final class ModelTest {
         long want = ((Number) theirs.invoke(model, args)).longValue();
         long got = ((Number) ours.invoke(box, args)).longValue();
         due.is("run " + run + " call " + calls++ + " " + name + Arrays.toString(args), got, want);
-        return (int) want;
     }
 
     private int below(int n) {
@@ -112,7 +115,7 @@ public final class ModelTest {
             call("flight");
             for (int k = 0; k < 3; k++) call("felt", 10 * f + k, around(300), around(20), 99999 >> below(9));
         }
-        for (int n = 0; n < 420 && calls < 500; n++) {
+        for (int n = 0; n < 420 && calls < MOST_CALLS; n++) {
             switch (below(6)) {
                 case 0: ofBoxes(); break;
                 case 1: case 2: ofFlights(); break;

@@ -10,6 +10,7 @@ public final class PaperSentencesTest {
         boxClaim();
         valueDoesNotMatter();
         triedClaim();
+        triedInEachFlight();
         triedClaimLimits();
         triedWhileOthersDie();
         triedAsNow();
@@ -144,6 +145,21 @@ public final class PaperSentencesTest {
                 for (int machine = 0; machine < 2; machine++) {
                     DUE.is("not dead", x.holds(machine, 2 * f), 1);
                     DUE.is("dead", x.holds(machine, 2 * f + 1), 0);
+                }
+            }
+        }
+    }
+
+    private static void triedInEachFlight() {
+        DUE.says("v: 100 times the FLIGHT, and n, 1 to 99");
+        for (int told = 0; told < 8; told++) {
+            NarrowBox x = desk(1, 8);
+            x.felt(10 * told, 1, 0, 1);
+            program(x, 0, "r0=1/(1-f0)");
+            for (int f = 0; f < 8; f++) {
+                for (int n : new int[] {1, 99}) {
+                    int paper = x.paper(1, 10, 100 * f + n, NONE);
+                    DUE.is("dead in flight " + told + " alone", x.holds(0, paper), f == told ? 0 : 1);
                 }
             }
         }

@@ -37,6 +37,7 @@ public final class RunSentencesTest {
         firstFault();
         ofRun();
         ofRunNone();
+        runWithoutBoxes();
         DUE.end();
     }
 
@@ -667,5 +668,16 @@ public final class RunSentencesTest {
         x.run(0, 1);
         DUE.is("now there is one", x.ofRun(0, 30), 0);
         DUE.is("that is told", x.firstFault(0), NOT);
+    }
+
+    private static void runWithoutBoxes() {
+        DUE.says("FIRST FAULT of the latest run(): the TICK (what 0), BOX (1), LINE (2), number (3). NOT: none. BAD (also before any).");
+        NarrowBox x = new NarrowBox();
+        x.flight();
+        DUE.is("before any", x.firstFault(0), BAD);
+        DUE.is("none is dead", x.run(0, 200), 0);
+        for (int what = 0; what < 4; what++) DUE.is("a run without a fault", x.firstFault(what), NOT);
+        for (int what : new int[] {-1, 4}) DUE.is("no such", x.firstFault(what), BAD);
+        DUE.is("of no box", x.ofRun(0, 30), VOID);
     }
 }

@@ -3,14 +3,19 @@ import java.util.Random;
 /** Promise 4 once more: the fault of texts that are nearly programs, against the slow search of Model.Texts. */
 public final class TextsTest {
     private static final String SIGNS = "k?:!rs=0123789tefi|&<>+-*/%();x";
+    /** An object is used for at most 512 calls, and a text takes up to 41. */
+    private static final int TEXTS_OF_ONE = 12;
 
     public static void main(String[] args) {
         int texts = args.length > 0 ? Integer.parseInt(args[0]) : 8000;
         Due due = new Due();
         Random random = new Random(2026);
-        NarrowBox x = new NarrowBox();
-        x.box(0);
+        NarrowBox x = null;
         for (int n = 0; n < texts; n++) {
+            if (n % TEXTS_OF_ONE == 0) {
+                x = new NarrowBox();
+                x.box(0);
+            }
             String text = changed(random, line(random) + (random.nextInt(3) == 0 ? ";" + line(random) : ""));
             int fault = Model.Texts.fault(text);
             int got = Due.program(x, 0, text);
