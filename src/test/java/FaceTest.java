@@ -23,7 +23,11 @@ public final class FaceTest {
     public static void main(String[] args) throws Exception {
         face();
         classesInside();
-        text(Files.readString(Path.of("src/main/java/NarrowBox.java"), StandardCharsets.UTF_8));
+        String source = Files.readString(Path.of("src/main/java/NarrowBox.java"), StandardCharsets.UTF_8);
+        String doc = Files.readString(Path.of("../shared/DOC.md"), StandardCharsets.UTF_8);
+        text(source);
+        asTheDocumentHasIt(source, doc.substring(doc.indexOf("```java"), doc.indexOf("## Terms")));
+        headings(source, doc);
         DUE.end();
     }
 
@@ -56,6 +60,41 @@ public final class FaceTest {
         }
         DUE.is("constants of the face", publicFields, 6);
         for (int i = 0; i < names.length; i++) DUE.is(names[i], c.getField(names[i]).getInt(null), values[i]);
+    }
+
+    /** Each line of the document's face stands in the class, with the same types and names, and in the same order. */
+    private static void asTheDocumentHasIt(String source, String face) {
+        int behind = 0;
+        int members = 0;
+        for (String line : face.split("\n")) {
+            String member = line.trim().replaceAll("\\);$", ") {");
+            if (!member.startsWith("public ")) continue;
+            int at = source.indexOf(member);
+            holds(member + " stands behind what is ahead of it in the document", at >= behind);
+            behind = at;
+            members++;
+        }
+        DUE.is("the class, its constants, its constructor, its calls", members, 3 + FACE.length);
+        Matcher open = Pattern.compile("(?m)^ {0,4}public .*$").matcher(source);
+        while (open.find()) members--;
+        DUE.is("what is public beside these", members, 0);
+    }
+
+    /** Ahead of the calls the interface says which part they are of. */
+    private static void headings(String source, String doc) {
+        Matcher m = Pattern.compile("Ahead of the calls (.*?) the interface says: (---- [^.]*)\\.").matcher(doc);
+        int calls = 0;
+        while (m.find()) {
+            int from = source.indexOf("// " + m.group(2) + "\n");
+            int to = source.indexOf("// ----", from + 1);
+            Matcher name = Pattern.compile("`(\\w+)`").matcher(m.group(1));
+            for (; name.find(); calls++) {
+                int at = Math.max(source.indexOf("public int " + name.group(1) + "("),
+                    source.indexOf("public long " + name.group(1) + "("));
+                holds(name.group(1) + " stands under " + m.group(2), from >= 0 && at > from && at < to);
+            }
+        }
+        DUE.is("calls under a heading", calls, FACE.length);
     }
 
     private static void classesInside() {
