@@ -5,6 +5,7 @@ import java.nio.charset.StandardCharsets;
 import java.nio.file.Files;
 import java.nio.file.Path;
 import java.util.ArrayList;
+import java.util.Comparator;
 import java.util.List;
 import java.util.Map;
 import java.util.Set;
@@ -89,6 +90,14 @@ public final class ReadmeTest {
         try (URLClassLoader loader = new URLClassLoader(new URL[] {dir.toUri().toURL()}, ReadmeTest.class.getClassLoader())) {
             Method m = loader.loadClass("Examples").getMethod("answers");
             return (List<?>) m.invoke(null);
+        } finally {
+            remove(dir);
+        }
+    }
+
+    private static void remove(Path dir) throws Exception {
+        try (Stream<Path> files = Files.walk(dir)) {
+            for (Path f : files.sorted(Comparator.reverseOrder()).toList()) Files.delete(f);
         }
     }
 
@@ -170,5 +179,6 @@ public final class ReadmeTest {
         String said = new String(p.getInputStream().readAllBytes(), StandardCharsets.UTF_8);
         boolean ended = p.waitFor(10, TimeUnit.MINUTES);
         DUE.isTrue(commands + said, ended && p.exitValue() == 0 && said.contains("answers are as due"));
+        remove(dir);
     }
 }
